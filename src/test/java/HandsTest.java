@@ -27,6 +27,10 @@ public final class HandsTest {
         // One of 2, then those of 1: 12 are on 4 old FINGERS, but 10 are the most.
         ThreadBank small = Due.told("founder;founder;tie 0 1 10;tie 1 1 10;tie 12 1 10;");
         DUE.is("one each", small.fewest(), 3);
+        for (int place : new int[] {3, 4, 2, 10, 11, 13, 14}) {
+            small.tie(place, 1, 10);
+        }
+        DUE.is("all ten", small.fewest(), 10);
     }
 
     private static void place() {
@@ -103,6 +107,7 @@ public final class HandsTest {
         DUE.is("spare(-1)", bank.spare(-1), Due.BAD);
         DUE.is("without threads", Due.told("old;old;old;").spare(1), 7);
         DUE.is("without clerks", new ThreadBank().spare(1), 0);
+        DUE.is("the first alone", Due.told("plain;plain;tie 10 1 11;tie 0 1 11;tie 11 1 12;").spare(1), 1);
         ThreadBank none = Due.told("plain;plain;tie 0 1 11;tie 10 1 12;");
         DUE.is("none", none.spare(0), 0);
         DUE.is("none of them", none.spare(1), 0);
@@ -118,6 +123,7 @@ public final class HandsTest {
         bank.cut(0);
         DUE.is("two", bank.quarrel(0), 2);
         DUE.is("then", bank.quarrel(1), 24);
+        DUE.is("as MUCH", Due.told("plain;plain;tie 0 1 91;tie 10 1 91;").quarrel(0), 0);
         DUE.is("quarrel(2)", bank.quarrel(2), Due.BAD);
         DUE.is("quarrel(-1)", bank.quarrel(-1), Due.BAD);
     }

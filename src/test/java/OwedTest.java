@@ -10,6 +10,8 @@ public final class OwedTest {
         ringByFewest();
         ringByNumbers();
         ringOfFour();
+        ringsOfAllKinds();
+        ringsSideBySide();
         clear();
         left();
         pays();
@@ -38,6 +40,7 @@ public final class OwedTest {
         DUE.is("sum(0)", bank.sum(0), 12);
         DUE.is("sum(1)", bank.sum(1), 9);
         DUE.is("sum(2)", bank.sum(2), 2);
+        DUE.is("NET of CLERK 0 too", Due.told("plain;plain;tie 0 10 70;").sum(2), 7);
         DUE.is("sum(3)", bank.sum(3), Due.BAD);
         DUE.is("sum(-1)", bank.sum(-1), Due.BAD);
     }
@@ -104,6 +107,51 @@ public final class OwedTest {
         DUE.is("left(20)", bank.left(20), 1);
         ThreadBank other = Due.told("old;old;old;old;tie 0 12 21;tie 0 23 20;tie 0 31 20;tie 1 20 30;");
         ringIs(other, 6, 1, 2, 3);
+    }
+
+    private static ThreadBank withDebts(int much, int... clerks) {
+        ThreadBank bank = Due.told("old;old;old;old;");
+        tieRound(bank, much, clerks);
+        return bank;
+    }
+
+    private static void tieRound(ThreadBank bank, int much, int... clerks) {
+        for (int i = 0; i < clerks.length; i++) {
+            bank.tie(bank.place(), 10 * clerks[i] + clerks[(i + 1) % clerks.length], 10 * much + i);
+        }
+    }
+
+    /** Each RING that there can be, alone, tied from any of its CLERKS on. */
+    private static void ringsOfAllKinds() {
+        int[][] rings = {{0, 1}, {0, 2}, {0, 3}, {1, 2}, {1, 3}, {2, 3}, {0, 1, 2}, {0, 1, 3}, {0, 2, 1}, {0, 2, 3},
+            {0, 3, 1}, {0, 3, 2}, {1, 2, 3}, {1, 3, 2}, {0, 1, 2, 3}, {0, 1, 3, 2}, {0, 2, 1, 3}, {0, 2, 3, 1},
+            {0, 3, 1, 2}, {0, 3, 2, 1}};
+        for (int[] ring : rings) {
+            for (int from = 0; from < ring.length; from++) {
+                int[] turned = new int[ring.length];
+                for (int i = 0; i < ring.length; i++) {
+                    turned[i] = ring[(i + from) % ring.length];
+                }
+                ThreadBank bank = withDebts(6, turned);
+                ringIs(bank, 6 * ring.length, ring);
+                DUE.is("all is cleared", bank.clear(0), 0);
+                DUE.is("by one", bank.clear(1), 1);
+            }
+        }
+    }
+
+    /** The second of two RINGS is tied first, and the first one is taken all the same. */
+    private static void ringsSideBySide() {
+        int[][][] rings = {{{0, 1}, {2, 3}}, {{0, 2}, {1, 3}}, {{0, 3}, {1, 2}}, {{0, 1}, {0, 2}}, {{0, 2}, {0, 3}},
+            {{0, 3}, {1, 3}}, {{1, 2}, {1, 3}}, {{1, 3}, {2, 3}}, {{0, 1, 2}, {0, 3, 2}}, {{0, 1, 3}, {0, 2, 3}},
+            {{0, 2, 1}, {0, 3, 1}}, {{0, 3, 1}, {0, 3, 2}}, {{0, 3, 2}, {1, 3, 2}}};
+        for (int[][] two : rings) {
+            ThreadBank bank = withDebts(5, two[1]);
+            tieRound(bank, 5, two[0]);
+            DUE.is("first CLERK", bank.ring(10), two[0][0]);
+            DUE.is("second CLERK", bank.ring(11), two[0][1]);
+            DUE.is("how many", bank.ring(1), two[0].length);
+        }
     }
 
     private static void clear() {

@@ -58,6 +58,9 @@ public final class SeenTest {
         bank.forget(0);
         bank.see(1, 3);
         fitsAre(bank, 2, 5, 5, 2, 2);
+        bank.forget(0);
+        bank.see(1, 10);
+        fitsAre(bank, 2, 0, 0, 7, 0);
         DUE.is("fits(5)", bank.fits(5), Due.BAD);
         DUE.is("fits(-1)", bank.fits(-1), Due.BAD);
         DUE.is("threads stay", bank.rule(1), 4);

@@ -112,6 +112,11 @@ public final class SheetTest {
             DUE.is("none asked", bank.read(1, lane, 1, 0), 0);
             bank.sheet(1, lane, 9);
             DUE.is("a new sheet is all 0", bank.read(1, lane, 0, 1), -20);
+            bank.cut(0);
+            bank.lay(1, 1, 1);
+            bank.lay(1, 2, 77);
+            DUE.is("its first cell too", bank.read(1, lane, 0, 1), 1);
+            DUE.is("place", bank.thread(2, 0), 0);
         }
     }
 

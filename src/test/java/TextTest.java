@@ -90,6 +90,8 @@ public final class TextTest {
         DUE.is("knot 1", bank.thread(1, 2), 10);
         DUE.is("ties before clerks", Due.tell(bank, "tie 11 1 42 ; plain ; plain ;"), 3);
         DUE.is("day is told anew", bank.rule(2), 0);
+        DUE.is("the last day", Due.tell(bank, "day 9;"), 1);
+        DUE.is("rule(2)", bank.rule(2), 9);
     }
 
     private static void textTakesAllAway() {
@@ -141,6 +143,8 @@ public final class TextTest {
     private static void faultsOfGrammar() {
         refused("plains;", 2, 0);
         refused("plai;", 2, 0);
+        refused("xlain;", 2, 0);
+        refused("lie 0 1 10;", 2, 0);
         refused("plain left;", 2, 6);
         refused("plain 1;", 2, 6);
         refused("plain", 2, 5);
@@ -212,7 +216,7 @@ public final class TextTest {
     }
 
     private static void rule() {
-        ThreadBank bank = Due.told("plain;left;old;founder;day 4;tie 0 1 10;tie 0 1 10;tie 34 1 10;");
+        ThreadBank bank = Due.told("plain;left;old;founder;day 4;tie 0 1 10;tie 0 1 10;tie 30 1 10;");
         DUE.is("rule(-1)", bank.rule(-1), Due.BAD);
         DUE.is("rule(5)", bank.rule(5), Due.BAD);
         int[] want = {4, 3, 4, 35, 2};
