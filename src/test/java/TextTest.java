@@ -100,12 +100,11 @@ public final class TextTest {
         bank.keep(0);
         bank.keep(1);
         bank.sheet(2, 0, 3);
-        String before = Due.all(bank);
+        String before = Due.held(bank);
         DUE.is("refused", Due.tell(bank, "plain;founder;plan;"), -24);
         DUE.is("its fault", bank.fault(), 2);
         DUE.is("tape empty", bank.count(4), 0);
-        Due.tell(bank, "plain");
-        DUE.is("what was told stays", Due.all(bank).replaceAll(" 2 0$", " 0 0"), before);
+        DUE.is("what was told stays", Due.held(bank), before);
         DUE.is("seen stays", bank.count(2), 1);
         DUE.is("images stay", bank.count(3), 2);
         DUE.is("empty text", bank.text(), 0);
