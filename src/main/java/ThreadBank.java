@@ -24,7 +24,6 @@ public final class ThreadBank {
     /** Odds are counted in twentieths, so that half of v out of ten is whole. */
     private static final int ODDS_WHOLE = 20;
     private static final int MOST_ODDS = 10;
-    private static final int NOTHING_CUT = 0;
 
     private static final int NULL_FAULT = 1;
     private static final int INDEX_FAULT = 2;
@@ -38,6 +37,7 @@ public final class ThreadBank {
     private final TextReader reader = new TextReader();
     private final Clearing clearing = new Clearing();
     private final Sheets sheets = new Sheets();
+    private final int[] originals = new int[MOST_THREADS];
     private int latestTorn;
 
     public ThreadBank() {
@@ -131,7 +131,7 @@ public final class ThreadBank {
             case 2:
                 return now.knots[t];
             case 3:
-                return now.isCopy(t, NOTHING_CUT) ? 1 : 0;
+                return now.isCopy(t) ? 1 : 0;
             default:
                 return BAD;
         }
@@ -208,7 +208,7 @@ public final class ThreadBank {
         if (!now.hasPair(pair) || what < 0 || what > 1) {
             return BAD;
         }
-        return now.owedBy(pair, NOTHING_CUT, what == 0 ? LAST_DAY : now.today);
+        return now.owedBy(pair, what == 0 ? LAST_DAY : now.today);
     }
 
     public int sum(int what) {
@@ -425,8 +425,9 @@ public final class ThreadBank {
         int inEach = all;
         int inSome = 0;
         int smallest = MOST_THREADS;
+        now.noteOriginals(originals);
         for (int cut = 0; cut <= all; cut++) {
-            if (now.isAsSeen(cut)) {
+            if (now.isAsSeen(cut, originals)) {
                 least = sets == 0 ? cut : least;
                 sets++;
                 inEach &= cut;
@@ -846,32 +847,36 @@ public final class ThreadBank {
             return hasThread(t) && hasThread(u) && pairs[t] == pairs[u] && knots[t] == knots[u];
         }
 
-        /** Whether it were a COPY, if the THREADS of these bits were cut. */
-        boolean isCopy(int t, int cut) {
+        /** Bits of the THREADS each of which makes this one a COPY. */
+        int originalsOf(int t) {
+            int bits = 0;
             for (int u = 0; u < t; u++) {
-                if (!hasBit(cut, u) && sameDebt(t, u) && handOf(t) != handOf(u)) {
-                    return true;
+                if (sameDebt(t, u) && handOf(t) != handOf(u)) {
+                    bits |= 1 << u;
                 }
             }
-            return false;
+            return bits;
+        }
+
+        boolean isCopy(int t) {
+            return originalsOf(t) != 0;
         }
 
         int copiesTied() {
             int copies = 0;
             for (int t = 0; t < threads; t++) {
-                if (isCopy(t, NOTHING_CUT)) {
+                if (isCopy(t)) {
                     copies++;
                 }
             }
             return copies;
         }
 
-        /** What were OWED by a PAIR, if the THREADS of these bits were cut, by a latest DAY. */
-        int owedBy(int pair, int cut, int latest) {
+        /** What is OWED by a PAIR up to a latest DAY. */
+        int owedBy(int pair, int latest) {
             int sum = 0;
             for (int t = 0; t < threads; t++) {
-                boolean counts = pairs[t] == pair && !hasBit(cut, t) && knots[t] % 10 <= latest;
-                if (counts && !isCopy(t, cut)) {
+                if (pairs[t] == pair && knots[t] % 10 <= latest && !isCopy(t)) {
                     sum += knots[t] / 10;
                 }
             }
@@ -882,7 +887,7 @@ public final class ThreadBank {
             int sum = 0;
             for (int debtor = 0; debtor < clerks; debtor++) {
                 for (int creditor = 0; creditor < clerks; creditor++) {
-                    sum += owedBy(10 * debtor + creditor, NOTHING_CUT, latest);
+                    sum += owedBy(10 * debtor + creditor, latest);
                 }
             }
             return sum;
@@ -891,15 +896,33 @@ public final class ThreadBank {
         int netOf(int c) {
             int net = 0;
             for (int other = 0; other < clerks; other++) {
-                net += owedBy(10 * other + c, NOTHING_CUT, LAST_DAY);
-                net -= owedBy(10 * c + other, NOTHING_CUT, LAST_DAY);
+                net += owedBy(10 * other + c, LAST_DAY);
+                net -= owedBy(10 * c + other, LAST_DAY);
             }
             return net;
         }
 
-        boolean isAsSeen(int cut) {
+        /** Noted once for all sets of THREADS that could be cut: there are up to 1024. */
+        void noteOriginals(int[] notes) {
+            for (int t = 0; t < threads && t < notes.length; t++) {
+                notes[t] = originalsOf(t);
+            }
+        }
+
+        /** What were OWED by a PAIR, if the THREADS of these bits were cut: a COPY is none without its originals. */
+        int owedWithout(int cut, int pair, int[] notes) {
+            int sum = 0;
+            for (int t = 0; t < threads && t < notes.length; t++) {
+                if (pairs[t] == pair && !hasBit(cut, t) && (notes[t] & ~cut) == 0) {
+                    sum += knots[t] / 10;
+                }
+            }
+            return sum;
+        }
+
+        boolean isAsSeen(int cut, int[] notes) {
             for (int i = 0; i < seen; i++) {
-                if (owedBy(seenPairs[i], cut, LAST_DAY) != seenSums[i]) {
+                if (owedWithout(cut, seenPairs[i], notes) != seenSums[i]) {
                     return false;
                 }
             }
@@ -1222,7 +1245,7 @@ public final class ThreadBank {
             for (int debtor = 0; debtor < MOST_CLERKS; debtor++) {
                 for (int creditor = 0; creditor < MOST_CLERKS; creditor++) {
                     int pair = 10 * debtor + creditor;
-                    sums[MOST_CLERKS * debtor + creditor] = memory.owedBy(pair, NOTHING_CUT, LAST_DAY);
+                    sums[MOST_CLERKS * debtor + creditor] = memory.owedBy(pair, LAST_DAY);
                 }
             }
         }

@@ -1,8 +1,6 @@
 /** The edges that promises 10 to 15 name: what is changed. */
 public final class ChangeEdgesTest {
     private static final Due DUE = new Due("ChangeEdgesTest");
-    private static final String[] KINDS = {"plain", "left", "old", "founder"};
-    private static final int[][] ROOMS = {{2, 2, 2, 2, 2}, {2, 2, 2, 0, 2}, {3, 3, 3, 0, 3}, {1, 1, 1, 1, 1}};
 
     public static void main(String[] args) {
         tieBounds();
@@ -91,13 +89,13 @@ public final class ChangeEdgesTest {
     private static void tieFullByRoom() {
         for (int kind = 0; kind < 4; kind++) {
             for (int finger = 0; finger < 5; finger++) {
-                ThreadBank bank = Due.told("plain;" + KINDS[kind] + ";");
-                int room = ROOMS[kind][finger];
+                ThreadBank bank = Due.told("plain;" + Due.KINDS[kind] + ";");
+                int room = Due.ROOMS[kind][finger];
                 for (int n = 0; n < room; n++) {
                     DUE.is("tie", bank.tie(10 + finger, 1, 10), n);
                 }
                 String before = Due.all(bank);
-                DUE.is("on a full FINGER of " + KINDS[kind], bank.tie(10 + finger, 1, 10), Due.FULL);
+                DUE.is("on a full FINGER of " + Due.KINDS[kind], bank.tie(10 + finger, 1, 10), Due.FULL);
                 DUE.is("state", Due.all(bank), before);
                 DUE.is("on the same FINGER of another hand", bank.tie(finger, 1, 10), room);
             }
@@ -175,8 +173,8 @@ public final class ChangeEdgesTest {
     private static void moveToTheLastRoom() {
         for (int kind = 0; kind < 4; kind++) {
             for (int finger = 0; finger < 5; finger++) {
-                int room = ROOMS[kind][finger];
-                ThreadBank bank = Due.told("old;" + KINDS[kind] + ";tie 0 1 10;tie 0 1 11;tie 0 1 12;tie 1 1 13;");
+                int room = Due.ROOMS[kind][finger];
+                ThreadBank bank = Due.told("old;" + Due.KINDS[kind] + ";tie 0 1 10;tie 0 1 11;tie 0 1 12;tie 1 1 13;");
                 for (int n = 0; n < room; n++) {
                     DUE.is("with ROOM left", bank.move(n, 10 + finger), 0);
                     DUE.is("it is there", bank.thread(n, 0), 10 + finger);
@@ -269,13 +267,13 @@ public final class ChangeEdgesTest {
         for (int from = 0; from < 4; from++) {
             for (int to = 0; to < 4; to++) {
                 for (int finger = 0; finger < 5; finger++) {
-                    for (int n = 0; n <= ROOMS[from][finger]; n++) {
-                        ThreadBank bank = Due.told("plain;" + KINDS[from] + ";");
+                    for (int n = 0; n <= Due.ROOMS[from][finger]; n++) {
+                        ThreadBank bank = Due.told("plain;" + Due.KINDS[from] + ";");
                         for (int t = 0; t < n; t++) {
                             bank.tie(10 + finger, 1, 10);
                         }
                         String before = Due.all(bank);
-                        boolean full = n > ROOMS[to][finger];
+                        boolean full = n > Due.ROOMS[to][finger];
                         DUE.is(n + " on FINGER " + finger + " from " + from + " to " + to, bank.teach(1, to),
                             full ? Due.FULL : from);
                         DUE.is("KIND", bank.clerk(1, 0), full ? from : to);
@@ -290,7 +288,7 @@ public final class ChangeEdgesTest {
 
     private static void teachTheSameKind() {
         for (int kind = 0; kind < 4; kind++) {
-            DUE.is("of which it is", Due.told(KINDS[kind] + ";").teach(0, kind), kind);
+            DUE.is("of which it is", Due.told(Due.KINDS[kind] + ";").teach(0, kind), kind);
         }
         DUE.is("a full hand of the other one is no bar",
             Due.told("plain;old;tie 10 1 10;tie 10 1 10;tie 10 1 10;").teach(0, 3), 0);

@@ -18,6 +18,10 @@ final class Due {
     static final int FULL = ThreadBank.FULL;
     static final int NONE = ThreadBank.NONE;
 
+    /** The NAMES of KINDS, and the ROOM of each FINGER by these. */
+    static final String[] KINDS = {"plain", "left", "old", "founder"};
+    static final int[][] ROOMS = {{2, 2, 2, 2, 2}, {2, 2, 2, 0, 2}, {3, 3, 3, 0, 3}, {1, 1, 1, 1, 1}};
+
     private final String name;
     private int asked;
     private int wrong;

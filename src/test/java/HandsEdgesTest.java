@@ -1,8 +1,6 @@
 /** The edges that promises 22 to 27 name: hands. */
 public final class HandsEdgesTest {
     private static final Due DUE = new Due("HandsEdgesTest");
-    private static final String[] KINDS = {"plain", "left", "old", "founder"};
-    private static final int[] ROOMS = {10, 8, 12, 5};
 
     public static void main(String[] args) {
         fewestOfNone();
@@ -53,10 +51,10 @@ public final class HandsEdgesTest {
     private static void fewestOfEachKind() {
         int[] rooms = {2, 2, 3, 1};
         for (int kind = 0; kind < 4; kind++) {
-            ThreadBank bank = Due.told(KINDS[kind] + ";" + KINDS[kind] + ";");
+            ThreadBank bank = Due.told(Due.KINDS[kind] + ";" + Due.KINDS[kind] + ";");
             for (int n = 1; n <= 10; n++) {
                 bank.tie(bank.place(), 1, 10);
-                DUE.is(n + " on " + KINDS[kind], bank.fewest(), (n + rooms[kind] - 1) / rooms[kind]);
+                DUE.is(n + " on " + Due.KINDS[kind], bank.fewest(), (n + rooms[kind] - 1) / rooms[kind]);
             }
             DUE.is("THREADS", bank.rule(1), 10);
         }
@@ -77,7 +75,7 @@ public final class HandsEdgesTest {
 
     private static void placeWithoutClerks() {
         DUE.is("no CLERKS", new ThreadBank().place(), Due.NONE);
-        for (String kind : KINDS) {
+        for (String kind : Due.KINDS) {
             DUE.is("a first one", Due.told(kind + ";").place(), 0);
         }
     }

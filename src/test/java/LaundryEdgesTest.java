@@ -3,7 +3,6 @@ import java.math.BigInteger;
 /** The edges that promises 28 to 30 and 34 name: LAUNDRIES by odds, and by a seed. */
 public final class LaundryEdgesTest {
     private static final Due DUE = new Due("LaundryEdgesTest");
-    private static final String[] KINDS = {"plain", "left", "old", "founder"};
     /** The odds to SLIP, in twentieths, are v times these. */
     private static final int[] TWENTIETHS = {2, 2, 1, 0};
 
@@ -31,7 +30,7 @@ public final class LaundryEdgesTest {
 
     /** So many THREADS of one debt each on the hand of a CLERK 1 of that KIND. */
     private static ThreadBank of(int kind, int threads) {
-        ThreadBank bank = Due.told("plain;" + KINDS[kind] + ";");
+        ThreadBank bank = Due.told("plain;" + Due.KINDS[kind] + ";");
         for (int t = 0; t < threads; t++) {
             int[] fingers = kind == 3 ? new int[] {0, 1, 2, 3, 4} : new int[] {0, 1, 2, 4};
             if (bank.tie(10 + fingers[t % fingers.length], 1, 10 + t) != t) {
@@ -67,7 +66,7 @@ public final class LaundryEdgesTest {
             for (int v = 0; v <= 10; v++) {
                 ThreadBank bank = of(kind, 5);
                 for (int t = 0; t < 5; t++) {
-                    fraction("kept(" + v + ", " + t + ") of " + KINDS[kind], bank.kept(v, t, 0), bank.kept(v, t, 1),
+                    fraction("kept(" + v + ", " + t + ") of " + Due.KINDS[kind], bank.kept(v, t, 0), bank.kept(v, t, 1),
                         BigInteger.valueOf(20 - v * TWENTIETHS[kind]), BigInteger.valueOf(20));
                 }
             }
@@ -202,7 +201,7 @@ public final class LaundryEdgesTest {
             for (int kind = 0; kind < 4; kind++) {
                 ThreadBank bank = of(kind, 1);
                 for (int v = 0; v <= 10; v++) {
-                    DUE.is("drift(" + seed + ", 1, " + v + ") of " + KINDS[kind], bank.drift(seed, 1, v),
+                    DUE.is("drift(" + seed + ", 1, " + v + ") of " + Due.KINDS[kind], bank.drift(seed, 1, v),
                         rest < v * TWENTIETHS[kind] ? 0 : 1);
                 }
             }

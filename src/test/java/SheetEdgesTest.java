@@ -12,6 +12,7 @@ public final class SheetEdgesTest {
         backBounds();
         backWithoutImage();
         backToEmptyAndToFull();
+        backToEachThatWasSeen();
         backAgainAndAgain();
         backLeavesTapeAndSheets();
         sheetBounds();
@@ -115,6 +116,27 @@ public final class SheetEdgesTest {
         DUE.is("KINDS, THREADS, DAY, SEEN", Due.held(bank), full);
         DUE.is("to empty", bank.back(0), 0);
         DUE.is("KINDS, THREADS, DAY, SEEN", Due.held(bank), empty);
+    }
+
+    /** Of six that were SEEN one alone tells how many THREADS were cut: 3 of ten are left. */
+    private static void backToEachThatWasSeen() {
+        for (int telling = 0; telling < 6; telling++) {
+            ThreadBank bank = Due.told("old;old;");
+            for (int t = 0; t < 10; t++) {
+                bank.tie(10 * (t % 2) + t / 2 % 3, 1, 10 + t);
+            }
+            for (int i = 0; i < 6; i++) {
+                bank.see(i == telling ? 1 : 10, i == telling ? 3 : 0);
+            }
+            bank.keep(0);
+            bank.forget(0);
+            for (int i = 0; i < 6; i++) {
+                bank.see(1, 99);
+            }
+            bank.back(0);
+            DUE.is("SEEN", bank.count(2), 6);
+            DUE.is("fits(0)", bank.fits(0), 120);
+        }
     }
 
     private static void backAgainAndAgain() {

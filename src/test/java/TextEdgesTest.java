@@ -1,8 +1,6 @@
 /** The edges that promises 1 to 9 name, and those of THE TAPE's TOKENS and FAULTS. */
 public final class TextEdgesTest {
     private static final Due DUE = new Due("TextEdgesTest");
-    private static final String[] KINDS = {"plain", "left", "old", "founder"};
-    private static final int[][] ROOMS = {{2, 2, 2, 2, 2}, {2, 2, 2, 0, 2}, {3, 3, 3, 0, 3}, {1, 1, 1, 1, 1}};
     private static final int TAPE = 160;
 
     public static void main(String[] args) {
@@ -433,7 +431,7 @@ public final class TextEdgesTest {
     }
 
     private static void clerksAndTiesAtMost() {
-        for (String kind : KINDS) {
+        for (String kind : Due.KINDS) {
             taken(clerks(3) + kind + ";", 4);
             refused(clerks(4) + kind + ";", 5, 16);
             refused(clerks(4) + " " + kind, 5, 17);
@@ -479,12 +477,12 @@ public final class TextEdgesTest {
     private static void fingersWithMoreThanRoom() {
         for (int kind = 0; kind < 4; kind++) {
             for (int finger = 0; finger < 5; finger++) {
-                String clerks = "plain;" + KINDS[kind] + ";";
+                String clerks = "plain;" + Due.KINDS[kind] + ";";
                 String tie = "tie 1" + finger + " 1 10;";
-                String full = clerks + tie.repeat(ROOMS[kind][finger]);
-                taken(full, 2 + ROOMS[kind][finger]);
+                String full = clerks + tie.repeat(Due.ROOMS[kind][finger]);
+                taken(full, 2 + Due.ROOMS[kind][finger]);
                 refused(full + tie, 7, full.length() + tie.length());
-                refused(tie.repeat(ROOMS[kind][finger] + 1) + clerks + " ", 7, full.length() + tie.length() + 1);
+                refused(tie.repeat(Due.ROOMS[kind][finger] + 1) + clerks + " ", 7, full.length() + tie.length() + 1);
             }
         }
     }
@@ -523,11 +521,17 @@ public final class TextEdgesTest {
         DUE.is("most ROOM", bank.rule(3), 48);
         DUE.is("FINGERS, one THREAD each", bank.rule(4), 10);
         DUE.is("least ROOM", Due.told("founder;").rule(3), 5);
+        ThreadBank each = Due.told("plain;plain;plain;plain;tie 0 1 10;");
+        for (int i = 0; i < 20; i++) {
+            int place = i / 5 * 10 + i % 5;
+            each.move(0, place);
+            DUE.is("a THREAD at " + place + " alone", each.rule(4), 1);
+        }
         ThreadBank crowded = Due.told("old;old;tie 0 1 10;tie 0 1 10;tie 0 1 10;");
         DUE.is("one FINGER, three THREADS", crowded.rule(4), 1);
         int[] rooms = {10, 8, 12, 5};
         for (int kind = 0; kind < 4; kind++) {
-            DUE.is("ROOM of " + KINDS[kind], Due.told(KINDS[kind] + ";").rule(3), rooms[kind]);
+            DUE.is("ROOM of " + Due.KINDS[kind], Due.told(Due.KINDS[kind] + ";").rule(3), rooms[kind]);
         }
     }
 
@@ -558,7 +562,7 @@ public final class TextEdgesTest {
         DUE.is("NET of another", bank.clerk(2, 3), 1000);
         int[] rooms = {10, 8, 12, 5};
         for (int kind = 0; kind < 4; kind++) {
-            ThreadBank one = Due.told(KINDS[kind] + ";");
+            ThreadBank one = Due.told(Due.KINDS[kind] + ";");
             DUE.is("KIND", one.clerk(0, 0), kind);
             DUE.is("ROOM", one.clerk(0, 2), rooms[kind]);
         }
@@ -578,15 +582,15 @@ public final class TextEdgesTest {
 
     private static void fingerEmptyAndFull() {
         for (int kind = 0; kind < 4; kind++) {
-            ThreadBank bank = Due.told("plain;" + KINDS[kind] + ";");
+            ThreadBank bank = Due.told("plain;" + Due.KINDS[kind] + ";");
             for (int finger = 0; finger < 5; finger++) {
-                DUE.is("ROOM", bank.finger(10 + finger, 0), ROOMS[kind][finger]);
+                DUE.is("ROOM", bank.finger(10 + finger, 0), Due.ROOMS[kind][finger]);
                 DUE.is("no THREAD", bank.finger(10 + finger, 1), 0);
-                for (int n = 1; n <= ROOMS[kind][finger]; n++) {
+                for (int n = 1; n <= Due.ROOMS[kind][finger]; n++) {
                     bank.tie(10 + finger, 1, 10);
                     DUE.is("THREADS", bank.finger(10 + finger, 1), n);
                 }
-                DUE.is("ROOM of a full one", bank.finger(10 + finger, 0), ROOMS[kind][finger]);
+                DUE.is("ROOM of a full one", bank.finger(10 + finger, 0), Due.ROOMS[kind][finger]);
                 bank.lose(1);
             }
         }
