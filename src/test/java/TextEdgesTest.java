@@ -11,6 +11,7 @@ public final class TextEdgesTest {
         feedIsBadBeforeFull();
         endTakesUpToWhatThereIs();
         endKeepsTheFirstBytes();
+        nothingIsReadBehindTheEnd();
         textOfNothing();
         textOfMostLines();
         textOf160Bytes();
@@ -153,6 +154,26 @@ public final class TextEdgesTest {
             DUE.is("the same end again", bank.end(n), n);
             Due.feedAll(bank, "left;");
             DUE.is("text behind end(" + n + ")", bank.text(), want[n]);
+        }
+    }
+
+    /** Bytes that end(n) or an earlier text took away would make the last TOKEN longer, or be one more. */
+    private static void nothingIsReadBehindTheEnd() {
+        String[][] cuts = {{"day 12", "5", "2"}, {"day 1;", "5", "2"}, {"oldest", "3", "2"}, {"old;?", "4", "0"},
+            {"day 123", "6", "3"}, {"old;   ?", "6", "0"}};
+        for (String[] cut : cuts) {
+            int n = Integer.parseInt(cut[1]);
+            int kind = Integer.parseInt(cut[2]);
+            int want = kind == 0 ? 1 : kind == 3 ? -14 : -10 - n;
+            ThreadBank ended = new ThreadBank();
+            Due.feedAll(ended, cut[0]);
+            ended.end(n);
+            DUE.is("end(" + n + ") of '" + cut[0] + "'", ended.text(), want);
+            DUE.is("its FAULT", ended.fault(), kind);
+            ThreadBank earlier = new ThreadBank();
+            Due.tell(earlier, cut[0]);
+            DUE.is("behind a text '" + cut[0] + "'", Due.tell(earlier, cut[0].substring(0, n)), want);
+            DUE.is("its FAULT", earlier.fault(), kind);
         }
     }
 
